@@ -30,6 +30,12 @@ public final class Promise05Paint {
         DUE.is("the text stays", x.count(12), 27);
         DUE.is("and is done again", x.paint(), 3);
         DUE.is("onto what was", x.point(0, 1, 9), 5);
+        Due.type(x, "s0,0;s3,0;b5,5,1,1=9");
+        x.paint();
+        x.set(5, 5, 2);
+        Due.type(x, "s0,0");
+        DUE.is("one order", x.paint(), 1);
+        DUE.is("none of the text that was", x.point(0, 5, 5), 2);
     }
 
     private static void faults() {
@@ -47,6 +53,8 @@ public final class Promise05Paint {
         painted("b0,", -103);
         painted("b0,-1,1,1=1", -103);
         painted("b0,0=1", -104);
+        painted("b0,0,-1,1=1", -105);
+        painted("b0,0,1,-1=1", -107);
         painted("b0,0,1,1,1", -108);
         painted("b0,0,1,1=", -109);
         painted("b0,0,1,1=-1", -109);

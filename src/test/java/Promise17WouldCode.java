@@ -26,6 +26,7 @@ public final class Promise17WouldCode {
         code(x, 0, 0, 1, 11, 7, 0);
         code(x, 8, 0, 0, 0, 1, 0);
         edges();
+        theScreenOfTheSender();
         wrong(x);
         DUE.end();
     }
@@ -53,6 +54,15 @@ public final class Promise17WouldCode {
         y.fill(0, 0, 4, 4, 0);
         y.fill(1, 0, 3, 4, 5);
         DUE.is("is not moved by what is beyond it", y.wouldCode(0, 0, 1), Due.NONE);
+    }
+
+    private static void theScreenOfTheSender() {
+        SpiralFrames x = new SpiralFrames();
+        x.fill(0, 0, 4, 4, 5);
+        x.send(true);
+        code(x, 0, 0, 0, 0, 1, 0);
+        x.set(0, 0, 6);
+        code(x, 0, 1, 0, 0, 1, 1);
     }
 
     private static void wrong(SpiralFrames x) {

@@ -17,6 +17,9 @@ public final class Promise18WouldSpend {
         x.setNumber(1, 0);
         x.setNumber(0, 600);
         x.send(false);
+        x.fill(0, 0, 4, 4, 3);
+        x.send(true);
+        due.is("the screen of the sender is compared, not that of the receiver", x.wouldSpend(0), 9);
         int[] told = Due.told(x);
         due.is("a frame that is to be keyed is told as one that is not", x.wouldSpend(0), 9);
         due.is("tolerance -1", x.wouldSpend(-1), Due.BAD_VALUE);

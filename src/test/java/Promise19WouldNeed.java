@@ -35,6 +35,12 @@ public final class Promise19WouldNeed {
         due.are("nothing is changed", Due.told(x), told);
         x.setNumber(0, 600);
         due.is("the next one is keyed, and this one told as if not", x.wouldNeed(), 0);
+        SpiralFrames y = new SpiralFrames();
+        y.fill(0, 0, 4, 4, 2);
+        y.setNumber(0, 74);
+        y.send(true);
+        y.setNumber(0, 73);
+        due.is("the screen of the sender is compared, not that of the receiver", y.wouldNeed(), 0);
         due.end();
     }
 }

@@ -21,6 +21,7 @@ public final class Promise20Best {
         best(x, 4, 13, 5);
         firstOfSeveral();
         withinTheScreen();
+        theScreenOfTheSender();
         int[] told = Due.told(x);
         DUE.is("tile -1", x.best(-1, 0), Due.UNKNOWN);
         DUE.is("tile 9", x.best(9, 0), Due.UNKNOWN);
@@ -44,6 +45,15 @@ public final class Promise20Best {
         x.fill(0, 0, 12, 12, 0);
         x.set(5, 5, 2);
         best(x, 4, 1, 2);
+    }
+
+    private static void theScreenOfTheSender() {
+        SpiralFrames x = new SpiralFrames();
+        x.fill(4, 4, 4, 4, 5);
+        x.send(true);
+        best(x, 4, 0, 0);
+        x.fill(4, 4, 4, 4, 0);
+        best(x, 4, 12, 20);
     }
 
     private static void withinTheScreen() {
