@@ -1,4 +1,8 @@
-/** Counts the answers that are not as due; a test ends with exit code 1 if there was one. */
+import java.util.ArrayList;
+import java.util.List;
+import java.util.function.IntUnaryOperator;
+
+/** What one test asked, and the answers that were not as due. */
 final class Due {
     static final int UNKNOWN = -1;
     static final int BAD_VALUE = -2;
@@ -6,15 +10,24 @@ final class Due {
     static final int NOT_POSSIBLE = -4;
     static final int NONE = -5;
 
-    private int wrong = 0;
+    private static final int TOLD_FAULTS = 10;
+
+    private final List<String> faults = new ArrayList<>();
     private int asked = 0;
+    private int wrong = 0;
 
     void is(String call, int got, int want) {
         asked++;
         if (got != want) {
             wrong++;
-            System.out.println(call + " answered " + got + ", due is " + want);
+            if (wrong <= TOLD_FAULTS) {
+                faults.add(call + " answered " + got + ", due is " + want);
+            }
         }
+    }
+
+    void holds(String what, boolean isSo) {
+        is(what, isSo ? 1 : 0, 1);
     }
 
     /** The calls of a row are due to answer the numbers of a row. */
@@ -25,55 +38,44 @@ final class Due {
         }
     }
 
-    void end() {
-        System.out.println(asked + " answers, " + wrong + " not as due");
-        if (wrong != 0 || asked == 0) {
-            System.exit(1);
+    /** No number of the range is answered by an error, and each one beyond it by this error. */
+    void range(String argument, int low, int high, int error, IntUnaryOperator call) {
+        for (int number = low; number <= high; number++) {
+            int answer = call.applyAsInt(number);
+            holds(argument + " " + number + " is within, but answered " + answer, answer >= 0 || answer == NONE);
         }
+        for (int away = 1; away <= 20; away++) {
+            beyond(argument, low - away, error, call);
+            beyond(argument, high + away, error, call);
+        }
+        for (int bit = 10; bit < 32; bit++) {
+            beyond(argument, (1 << bit) + low, error, call);
+            beyond(argument, -(1 << bit) + high, error, call);
+        }
+        beyond(argument, Integer.MAX_VALUE, error, call);
+        beyond(argument, Integer.MIN_VALUE, error, call);
     }
 
-    static void type(SpiralFrames x, String text) {
-        x.clearText();
-        for (int i = 0; i < text.length(); i++) {
-            x.type(text.charAt(i));
-        }
+    private void beyond(String argument, int number, int error, IntUnaryOperator call) {
+        is(argument + " " + number, call.applyAsInt(number), error);
     }
 
-    /** What paint() answers to a text on a new object. */
-    static int painted(String text) {
-        SpiralFrames x = new SpiralFrames();
-        type(x, text);
-        return x.paint();
+    /** The call answers so, and all that is told is as it would be without it. */
+    void changesNothing(String call, Run ahead, int want, ToInt refused) {
+        is(call, refused.of(ahead.made()), want);
+        are("all that is told behind " + call, Told.all(ahead.then(refused::of)), Told.all(ahead));
     }
 
-    /** All that an object tells of itself, to see that a call changed nothing. */
-    static int[] told(SpiralFrames x) {
-        int[] told = new int[3 * 144 + 13 + 10 * 17];
-        int at = 0;
-        for (int picture = 0; picture < 3; picture++) {
-            for (int point = 0; point < 144; point++) {
-                told[at++] = x.point(picture, point % 12, point / 12);
-            }
-        }
-        for (int what = 0; what < 13; what++) {
-            told[at++] = x.count(what);
-        }
-        for (int back = 0; back < 10; back++) {
-            for (int what = 0; what < 8; what++) {
-                told[at++] = x.frame(back, what);
-            }
-            for (int tile = 0; tile < 9; tile++) {
-                told[at++] = x.sent(back, tile);
-            }
-        }
-        return told;
+    boolean isAsDue() {
+        return wrong == 0 && asked > 0;
     }
 
-    /** All but the text, the history and the snapshot. */
-    static int[] state(SpiralFrames x) {
-        int[] told = told(x);
-        told[3 * 144 + 11] = 0;
-        told[3 * 144 + 12] = 0;
-        return told;
+    List<String> faults() {
+        return asked > 0 ? faults : List.of("nothing was asked");
+    }
+
+    /** One call, and what it answers. */
+    interface ToInt {
+        int of(Calls x);
     }
 }

@@ -1,35 +1,53 @@
 import java.util.Random;
 
-/** Any arguments in any state: no call throws, and what a call may not answer it does not answer. */
+/** Rule 7: any arguments in any state, also behind the 512th call, whose answers are free. */
 public final class NeverThrows {
     private static final int[] EDGES = {Integer.MIN_VALUE, Integer.MIN_VALUE + 1, -145, -101, -13, -12, -11, -5, -4, -3, -2, -1, 0, 1, 2, 3,
         4, 7, 8, 9, 10, 11, 12, 13, 15, 16, 24, 25, 26, 50, 51, 60, 143, 144, 240, 241, 600, 601, Integer.MAX_VALUE - 1, Integer.MAX_VALUE};
     private static final String SIGNS = "bs0123456789,;=-";
+    private static final int RUNS = 1500;
+    private static final int CALLS = 700;
+
+    private NeverThrows() {
+    }
 
     public static void main(String[] args) {
-        Random random = new Random(7);
-        Due due = new Due();
-        for (int run = 0; run < 1500; run++) {
+        Tests.test("rule 7: no call throws, for any arguments in any state", due -> runs(due, new Random(7)));
+        Tests.test("rule 7: no call throws, for the edges of all arguments on a new object", NeverThrows::edges);
+        Tests.end();
+    }
+
+    private static void runs(Due due, Random random) {
+        for (int run = 0; run < RUNS; run++) {
             SpiralFrames x = new SpiralFrames();
-            for (int call = 0; call < 700; call++) {
-                String told = "run " + run + " call " + call;
-                try {
-                    int answer = any(x, random);
-                    due.is(told + " below all answers: " + answer, answer < -160 ? 1 : 0, 0);
-                } catch (RuntimeException thrown) {
-                    due.is(told + " threw " + thrown, 1, 0);
+            for (int call = 0; call < CALLS; call++) {
+                int[] a = new int[5];
+                for (int i = 0; i < 5; i++) {
+                    a[i] = random.nextInt(3) == 0 ? EDGES[random.nextInt(EDGES.length)] : random.nextInt(13);
+                }
+                int answer = any(x, random, random.nextInt(24), a);
+                due.holds("run " + run + " call " + call + " answered " + answer,
+                    call >= Calls.MOST || answer >= Due.NONE || answer <= -100 && answer >= -160);
+            }
+        }
+    }
+
+    private static void edges(Due due) {
+        Random random = new Random(8);
+        for (int method = 0; method < 24; method++) {
+            for (int first : EDGES) {
+                for (int second : EDGES) {
+                    for (int third : EDGES) {
+                        int answer = any(new SpiralFrames(), random, method, new int[] {first, second, third, third, first});
+                        due.holds("method " + method + " answered " + answer, answer >= -101);
+                    }
                 }
             }
         }
-        due.end();
     }
 
-    private static int any(SpiralFrames x, Random random) {
-        int[] a = new int[5];
-        for (int i = 0; i < 5; i++) {
-            a[i] = random.nextInt(3) == 0 ? EDGES[random.nextInt(EDGES.length)] : random.nextInt(13);
-        }
-        switch (random.nextInt(24)) {
+    private static int any(SpiralFrames x, Random random, int method, int[] a) {
+        switch (method) {
             case 0: return x.set(a[0], a[1], a[2]);
             case 1: return x.fill(a[0], a[1], a[2], a[3], a[4]);
             case 2: return x.shift(a[0], a[1]);

@@ -1,25 +1,40 @@
-/** Promise 1: three empty pictures. */
-public final class Promise01NewObject {
-    public static void main(String[] args) {
-        Due due = new Due();
-        SpiralFrames x = new SpiralFrames();
-        int[] empty = new int[3 * 144 + 13 + 10 * 17];
-        java.util.Arrays.fill(empty, 3 * 144 + 13, empty.length, Due.NONE);
-        empty[3 * 144] = 200;
-        due.are("all that a new object tells", Due.told(x), empty);
-        for (int picture = 0; picture < 3; picture++) {
-            for (int other = 0; other < 3; other++) {
-                due.is("difference of empty pictures", x.difference(picture, other, -1), 0);
+/** Promise 1: SpiralFrames(). */
+final class Promise01NewObject {
+    private static final String EMPTY = "Creates three empty pictures.";
+
+    private Promise01NewObject() {
+    }
+
+    static void tests() {
+        Heading h = new Heading("Promise 1");
+        h.test(EMPTY, "every point of each of them", due -> {
+            for (int picture = 0; picture < 3; picture++) {
+                due.are("points of the picture " + picture, Told.points(new Calls(), picture), new int[144]);
             }
-        }
-        due.is("wouldNeed()", x.wouldNeed(), 0);
-        due.is("wouldSpend(0)", x.wouldSpend(0), 9);
-        due.is("undo()", x.undo(), Due.NONE);
-        due.is("restore()", x.restore(), Due.NONE);
-        due.is("paint()", x.paint(), -100);
-        SpiralFrames other = new SpiralFrames();
-        other.set(1, 1, 1);
-        due.is("another object's point", x.point(0, 1, 1), 0);
-        due.end();
+        });
+        h.test(EMPTY, "and all else that is told", due -> {
+            int[] told = new int[Told.SCREENS_TOLD + Told.COUNTS_TOLD + Told.LOG_TOLD];
+            java.util.Arrays.fill(told, Told.SCREENS_TOLD + Told.COUNTS_TOLD, told.length, Due.NONE);
+            told[Told.SCREENS_TOLD] = 200;
+            due.are("the state", Told.state(x -> { }), told);
+            due.is("states in the history", new Calls().count(11), 0);
+            due.is("length of the text", new Calls().count(12), 0);
+            due.is("wouldNeed()", new Calls().wouldNeed(), 0);
+            due.is("wouldSpend(0)", new Calls().wouldSpend(0), 9);
+            due.is("undo()", new Calls().undo(), Due.NONE);
+            due.is("restore()", new Calls().restore(), Due.NONE);
+            due.is("paint()", new Calls().paint(), -100);
+        });
+        h.test(EMPTY, "of its own, not those of another object", due -> {
+            Calls x = new Calls();
+            Calls y = new Calls();
+            Runs.rich(x);
+            due.are("the other's state", Told.state(z -> { }), Told.state(z -> Runs.rich(new Calls())));
+            due.is("the other's point", y.point(0, 0, 0), 0);
+            due.is("the other's text", y.count(12), 0);
+            due.is("the other's history", y.undo(), Due.NONE);
+            due.is("the other's snapshot", y.restore(), Due.NONE);
+            due.is("the other's frames", y.count(4), 0);
+        });
     }
 }

@@ -1,127 +1,126 @@
-/** Promise 5: paint, and the faults of texts. */
-public final class Promise05Paint {
-    private static final Due DUE = new Due();
+/** Promise 5: paint(). What a text may say is tested under TEXTS. */
+final class Promise05Paint {
+    private static final String DOES = "Does the orders of the text, which stays, one after the other.";
+    private static final String FAULT = "-100 minus the fault of the text if it has one (which is an error)";
+    private static final String FIRST = "otherwise, of the first order for which it is so, the error that fill() or shift() returns";
 
-    public static void main(String[] args) {
-        orders();
-        faults();
-        errors();
-        oneAct();
-        DUE.end();
+    private Promise05Paint() {
     }
 
-    private static void painted(String text, int want) {
-        DUE.is("paint of " + text, Due.painted(text), want);
+    static void tests() {
+        Heading h = new Heading("Promise 5");
+        does(h);
+        oneAct(h);
+        answers(h);
+        errors(h);
+        nothing(h);
     }
 
-    private static void orders() {
-        painted("b0,0,4,4=7", 1);
-        painted("s0,0", 1);
-        painted("s-11,-11", 1);
-        painted("s11,10;s-1,0;b11,11,12,12=15", 3);
-        painted("s0,0;s0,0;s0,0;s0,0;s0,0;s0,0;s0,0;s0,0;s0,0;s0,0;s0,0;s0,0", 12);
-        SpiralFrames x = new SpiralFrames();
-        Due.type(x, "b1,2,3,4=5;s-1,2;b0,4,1,1=6");
-        DUE.is("three orders", x.paint(), 3);
-        DUE.is("filled behind the move", x.point(0, 0, 4), 6);
-        DUE.is("moved left and down", x.point(0, 2, 7), 5);
-        DUE.is("moved away", x.point(0, 3, 4), 0);
-        DUE.is("one row further down", x.point(0, 0, 8), 0);
-        DUE.is("the text stays", x.count(12), 27);
-        DUE.is("and is done again", x.paint(), 3);
-        DUE.is("onto what was", x.point(0, 1, 9), 5);
-        Due.type(x, "s0,0;s3,0;b5,5,1,1=9");
-        x.paint();
-        x.set(5, 5, 2);
-        Due.type(x, "s0,0");
-        DUE.is("one order", x.paint(), 1);
-        DUE.is("none of the text that was", x.point(0, 5, 5), 2);
-    }
-
-    private static void faults() {
-        painted("", -100);
-        painted("x", -100);
-        painted("B0,0,1,1=1", -100);
-        painted(";", -100);
-        painted("b", -101);
-        painted("b,", -101);
-        painted("b-1,0,1,1=1", -101);
-        painted("b 1", -101);
-        painted("b00,0,1,1=1", -102);
-        painted("b0;0", -102);
-        painted("b100,0,1,1=1", -103);
-        painted("b0,", -103);
-        painted("b0,-1,1,1=1", -103);
-        painted("b0,0=1", -104);
-        painted("b0,0,-1,1=1", -105);
-        painted("b0,0,1,-1=1", -107);
-        painted("b0,0,1,1,1", -108);
-        painted("b0,0,1,1=", -109);
-        painted("b0,0,1,1=-1", -109);
-        painted("b0,0,1,1=05", -110);
-        painted("b0,0,1,1=123", -111);
-        painted("b0,0,1,1=1 ", -110);
-        painted("b0,0,1,1=1;", -111);
-        painted("b0,0,1,1=1;;", -111);
-        painted("s", -101);
-        painted("s-", -102);
-        painted("s-0,0", -102);
-        painted("s--1,0", -102);
-        painted("s01,0", -102);
-        painted("s+1,0", -101);
-        painted("s1", -102);
-        painted("s-1", -103);
-        painted("s-12", -104);
-        painted("s-123,0", -104);
-        painted("s1,", -103);
-        painted("s1,-", -104);
-        painted("s1,-00", -104);
-        painted("s1,0,", -104);
-        painted("s1,0=1", -104);
-        painted("s1,00", -104);
-        painted("s1,0;", -105);
-        painted("s1,0;x", -105);
-        painted("s" + (char) 0x0661 + ",0", -101);
-        painted((char) ('s' + 256) + "0,0", -100);
-        painted("s0,0;s0,0;s0,0;s0,0;s0,0;s0,0;s0,0;s0,0;s0,0;s0,0;s0,0;s0,0;", -160);
-        painted("s0,0;s0,0;s0,0;s0,0;s0,0;s0,0;s0,0;s0,0;s0,0;s0,0;s0,0;s0,0x", -159);
-        painted("s12,0;b99,0,0,0=99;x", -119);
-    }
-
-    private static void errors() {
-        painted("b12,0,1,1=1", Due.UNKNOWN);
-        painted("b0,99,0,0=99", Due.UNKNOWN);
-        painted("b0,0,0,1=1", Due.BAD_VALUE);
-        painted("b0,0,13,1=1", Due.BAD_VALUE);
-        painted("b0,0,1,0=1", Due.BAD_VALUE);
-        painted("b0,0,1,13=1", Due.BAD_VALUE);
-        painted("b0,0,1,1=16", Due.BAD_VALUE);
-        painted("s12,0", Due.BAD_VALUE);
-        painted("s0,-12", Due.BAD_VALUE);
-        painted("s0,0;s12,0;b12,0,1,1=1", Due.BAD_VALUE);
-        painted("s0,0;b12,0,1,1=1;s12,0", Due.UNKNOWN);
-        SpiralFrames x = new SpiralFrames();
-        x.set(1, 1, 1);
-        for (String text : new String[] {"b0,0,4,4=7;b12,0,1,1=1", "b0,0,4,4=7;s1,1;s12,0", "b0,0,4,4=7;"}) {
-            Due.type(x, text);
-            int[] before = Due.told(x);
+    private static void does(Heading h) {
+        h.test(DOES, "a box ahead of a step is moved, one behind it is not", due -> {
+            Calls x = new Calls().text("b1,2,3,4=5;s-1,2;b0,4,1,1=6");
+            due.is("three orders", x.paint(), 3);
+            due.is("filled behind the step", x.point(0, 0, 4), 6);
+            due.is("moved to the left and down", x.point(0, 2, 7), 5);
+            due.is("moved away", x.point(0, 3, 4), 0);
+            due.is("no row further down", x.point(0, 0, 8), 0);
+        });
+        h.test(DOES, "the same as fill() and shift() one after the other", due -> {
+            Run painted = x -> x.text("b0,0,6,6=9;s3,-2;b2,1,12,3=4;s-4,5;b11,11,1,1=1").paint();
+            Run done = x -> {
+                x.fill(0, 0, 6, 6, 9);
+                x.shift(3, -2);
+                x.fill(2, 1, 12, 3, 4);
+                x.shift(-4, 5);
+                x.fill(11, 11, 1, 1, 1);
+            };
+            due.are("the drawing", Told.points(painted.made(), 0), Told.points(done.made(), 0));
+        });
+        h.test("which stays", "it can be painted again", due -> {
+            Calls x = new Calls().text("b1,2,3,4=5;s0,1");
             x.paint();
-            DUE.are("nothing is changed by " + text, Due.told(x), before);
-        }
+            due.is("the length", x.count(12), 15);
+            due.is("paint()", x.paint(), 2);
+            due.is("moved once more", x.point(0, 1, 7), 5);
+            due.is("moved down with it", x.point(0, 1, 2), 0);
+        });
+        h.test("Does the orders of the text", "the last of twelve too, and none of a text that was", due -> {
+            Calls x = new Calls();
+            x.set(0, 0, 9);
+            x.text(Runs.TWELVE_ORDERS.replaceFirst("0,0$", "1,0")).paint();
+            due.is("the twelfth is done", x.point(0, 1, 0), 9);
+            x.text("s0,0").paint();
+            due.is("no order of the longer one", x.point(0, 1, 0), 9);
+        });
     }
 
-    private static void oneAct() {
-        SpiralFrames x = new SpiralFrames();
-        x.set(0, 0, 1);
-        int[] before = Due.state(x);
-        Due.type(x, "b0,0,4,4=7;s1,1;b3,3,9,9=2");
-        DUE.is("paint()", x.paint(), 3);
-        DUE.is("one act", x.count(11), 2);
-        DUE.is("undo()", x.undo(), 1);
-        DUE.are("as it was", Due.state(x), before);
-        DUE.is("undo does not take the text", x.count(12), 26);
-        Due.type(x, "s0,0");
-        DUE.is("orders that do nothing", x.paint(), 1);
-        DUE.is("are an act too", x.count(11), 2);
+    private static void oneAct(Heading h) {
+        h.test("This is one act.", "of three orders", due -> {
+            Calls x = new Calls();
+            x.set(0, 0, 1);
+            x.text("b0,0,4,4=7;s1,1;b3,3,9,9=2");
+            x.paint();
+            due.is("states", x.count(11), 2);
+            due.is("undo()", x.undo(), 1);
+            due.is("the point ahead", x.point(0, 0, 0), 1);
+            due.is("and no other", x.difference(0, 1, -1), 1);
+        });
+        h.test("This is one act.", "also of orders that change nothing", due -> {
+            Calls x = new Calls().text("s0,0");
+            x.paint();
+            due.is("states", x.count(11), 1);
+        });
+    }
+
+    private static void answers(Heading h) {
+        h.test("Returns how many there are", "one and twelve, of one kind or both", due -> {
+            TextsTests.painted(due, "s0,0", 1);
+            TextsTests.painted(due, "b0,0,1,1=0", 1);
+            TextsTests.painted(due, "s0,0;b0,0,1,1=0", 2);
+            TextsTests.painted(due, Runs.TWELVE_ORDERS, 12);
+        });
+        h.test(FAULT, "the least fault, the greatest, and one between", due -> {
+            TextsTests.painted(due, "", -100);
+            TextsTests.painted(due, "x", -100);
+            TextsTests.painted(due, "s0,0,", -104);
+            TextsTests.painted(due, Runs.TWELVE_ORDERS + ";", -160);
+        });
+        h.test(FAULT, "ahead of an error of an order", due -> TextsTests.painted(due, "s12,0;b12,0,0,0=16;", -119));
+    }
+
+    private static void errors(Heading h) {
+        h.test(FIRST, "those of fill()", due -> {
+            TextsTests.painted(due, "b11,11,12,12=15", 1);
+            TextsTests.painted(due, "b12,0,1,1=1", Due.UNKNOWN);
+            TextsTests.painted(due, "b0,12,1,1=1", Due.UNKNOWN);
+            TextsTests.painted(due, "b0,99,0,0=99", Due.UNKNOWN);
+            TextsTests.painted(due, "b0,0,0,1=1", Due.BAD_VALUE);
+            TextsTests.painted(due, "b0,0,13,1=1", Due.BAD_VALUE);
+            TextsTests.painted(due, "b0,0,1,0=1", Due.BAD_VALUE);
+            TextsTests.painted(due, "b0,0,1,13=1", Due.BAD_VALUE);
+            TextsTests.painted(due, "b0,0,1,1=16", Due.BAD_VALUE);
+        });
+        h.test(FIRST, "those of shift()", due -> {
+            TextsTests.painted(due, "s11,-11", 1);
+            TextsTests.painted(due, "s12,0", Due.BAD_VALUE);
+            TextsTests.painted(due, "s-12,0", Due.BAD_VALUE);
+            TextsTests.painted(due, "s0,12", Due.BAD_VALUE);
+            TextsTests.painted(due, "s0,-99", Due.BAD_VALUE);
+        });
+        h.test("of the first order for which it is so", "not of the last, nor the worst", due -> {
+            TextsTests.painted(due, "s0,0;s12,0;b12,0,1,1=1", Due.BAD_VALUE);
+            TextsTests.painted(due, "s0,0;b12,0,1,1=1;s12,0", Due.UNKNOWN);
+            TextsTests.painted(due, "b0,0,1,1=1;b0,0,1,1=16;b12,0,1,1=1;s0,0", Due.BAD_VALUE);
+            TextsTests.painted(due, Runs.TWELVE_ORDERS.replaceFirst("0,0$", "99,9"), Due.BAD_VALUE);
+        });
+    }
+
+    private static void nothing(Heading h) {
+        h.test("(then nothing is done)", "none of the orders ahead of it", due -> {
+            Run rich = x -> Runs.rich(x);
+            due.changesNothing("paint()", rich.then(x -> x.text("b0,0,4,4=7;s1,1;b12,0,1,1=1")), Due.UNKNOWN, Calls::paint);
+            due.changesNothing("paint()", rich.then(x -> x.text("b0,0,4,4=7;s1,12;b1,1,1,1=1")), Due.BAD_VALUE, Calls::paint);
+            due.changesNothing("paint()", rich.then(x -> x.text("b0,0,4,4=7;s1,1;")), -116, Calls::paint);
+        });
     }
 }

@@ -1,46 +1,72 @@
-/** Promise 8: sendKeyed. */
-public final class Promise08SendKeyed {
-    public static void main(String[] args) {
-        Due due = new Due();
-        SpiralFrames x = new SpiralFrames();
-        x.fill(1, 1, 9, 9, 3);
-        int[] before = Due.told(x);
-        due.is("200 bits are too few", x.sendKeyed(false), Due.NOT_POSSIBLE);
-        due.is("lost or not", x.sendKeyed(true), Due.NOT_POSSIBLE);
-        due.are("nothing is changed", Due.told(x), before);
-        x.setNumber(0, 593);
-        due.is("593 bits are too few", x.sendKeyed(false), Due.NOT_POSSIBLE);
-        x.setNumber(0, 594);
-        due.is("594 are enough", x.sendKeyed(false), 594);
-        due.is("saved", x.count(3), 0);
-        due.are("the frame", new int[] {x.frame(0, 0), x.frame(0, 1), x.frame(0, 2), x.frame(0, 3), x.frame(0, 4), x.frame(0, 5),
-            x.frame(0, 6), x.frame(0, 7)}, 594, Due.NONE, 1, 0, 0, 0, 9, 0);
-        due.is("the sender has it", x.difference(0, 1, -1), 0);
-        due.is("the receiver has it", x.difference(0, 2, -1), 0);
-        x.setNumber(1, 240);
-        x.set(0, 0, 1);
-        due.is("the least tolerance does not matter; lost", x.sendKeyed(true), 594);
-        due.is("the sender has it", x.difference(0, 1, -1), 0);
-        due.is("the receiver does not", x.difference(0, 2, -1), 1);
-        due.is("keyed", x.count(5), 2);
-        due.is("lost ones", x.count(6), 1);
-        due.is("since", x.count(8), 0);
-        due.is("all bits", x.count(7), 1188);
-        due.is("a tile that was equal is whole as well", x.sent(0, 8), 25);
-        x.setNumber(0, 9);
-        due.is("too few again", x.sendKeyed(true), Due.NOT_POSSIBLE);
-        due.is("what was saved counts", saved(), 594);
-        due.is("undo()", x.undo(), 3);
-        due.is("undo()", x.undo(), 2);
-        due.is("the frame is gone", x.count(5), 1);
-        due.end();
+/** Promise 8: sendKeyed(). */
+final class Promise08SendKeyed {
+    private Promise08SendKeyed() {
     }
 
-    private static int saved() {
-        SpiralFrames x = new SpiralFrames();
-        x.setNumber(0, 312);
-        x.send(false);
-        x.setNumber(0, 290);
-        return x.count(3) == 303 && x.sendKeyed(false) == Due.NOT_POSSIBLE && x.setNumber(0, 291) == 290 ? x.sendKeyed(false) : 0;
+    static void tests() {
+        Heading h = new Heading("Promise 8");
+        h.test("Sends the drawing as a keyed frame.", "all tiles whole, whatever the settings are", due -> {
+            Calls x = new Calls();
+            x.setNumber(0, 594);
+            x.setNumber(1, 240);
+            x.fill(1, 1, 9, 9, 3);
+            x.sendKeyed(false);
+            int[] wants = {594, Due.NONE, 1, 0, 0, 0, 9, 0};
+            for (int what = 0; what < 8; what++) {
+                due.is("frame(0, " + what + ")", x.frame(0, what), wants[what]);
+            }
+            due.is("the sender has it", x.difference(0, 1, -1), 0);
+            due.is("the receiver has it", x.difference(0, 2, -1), 0);
+            due.is("keyed ones", x.count(5), 1);
+            due.is("frames since then", x.count(8), 0);
+        });
+        h.test("This is an act.", "it is recorded and undone, with all that it counts", due -> {
+            Run run = x -> {
+                Runs.rich(x);
+                x.setNumber(0, 600);
+            };
+            due.is("states", run.then(x -> x.sendKeyed(false)).made().count(11), 4);
+            due.are("behind undo()", Told.state(run.then(x -> x.sendKeyed(false)).then(Calls::undo)), Told.state(run));
+            due.are("behind undo() of a lost one", Told.state(run.then(x -> x.sendKeyed(true)).then(Calls::undo)), Told.state(run));
+        });
+        h.test("- `isLost`: whether it is lost on the way", "true and false", due -> {
+            for (int lost = 0; lost <= 1; lost++) {
+                Calls x = new Calls();
+                x.setNumber(0, 600);
+                x.set(2, 2, 9);
+                due.is("bits", x.sendKeyed(lost == 1), 594);
+                due.is("the screen of the sender", x.point(1, 2, 2), 9);
+                due.is("that of the receiver", x.point(2, 2, 2), lost == 1 ? 0 : 9);
+                due.is("lost ones", x.count(6), lost);
+                due.is("whether it was lost", x.frame(0, 3), lost);
+                due.is("keyed ones", x.count(5), 1);
+                due.is("frames since then", x.count(8), 0);
+            }
+        });
+        h.test("Returns the bits that it spends (594)", "of an empty drawing and of a full one", due -> {
+            Calls x = new Calls();
+            x.setNumber(0, 600);
+            due.is("an empty one", x.sendKeyed(false), 594);
+            x.fill(0, 0, 12, 12, 15);
+            due.is("a full one", x.sendKeyed(true), 594);
+            due.is("all bits", x.count(7), 1188);
+        });
+        h.test("NOT_POSSIBLE if they cannot be spent", "593 and 594 bits, of the budget and with what was saved", due -> {
+            due.is("200, lost or not", new Calls().sendKeyed(true), Due.NOT_POSSIBLE);
+            due.is("593", Runs.saved(0, 593).sendKeyed(false), Due.NOT_POSSIBLE);
+            due.is("594", Runs.saved(0, 594).sendKeyed(false), 594);
+            due.is("300 and 293", Runs.saved(300, 293).sendKeyed(false), Due.NOT_POSSIBLE);
+            due.is("300 and 294", Runs.saved(300, 294).sendKeyed(false), 594);
+            due.is("584 and 9", Runs.saved(584, 9).sendKeyed(false), Due.NOT_POSSIBLE);
+            due.is("585 and 9", Runs.saved(585, 9).sendKeyed(false), 594);
+        });
+        h.test("NOT_POSSIBLE if they cannot be spent", "again behind one that spent them", due -> {
+            Calls x = Runs.saved(0, 594);
+            due.is("the first", x.sendKeyed(false), 594);
+            due.is("the second, with the budget alone", x.sendKeyed(false), 594);
+            x.setNumber(0, 593);
+            due.is("the third", x.sendKeyed(false), Due.NOT_POSSIBLE);
+            due.is("keyed ones", x.count(5), 2);
+        });
     }
 }
