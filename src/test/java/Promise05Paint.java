@@ -52,6 +52,17 @@ final class Promise05Paint {
             x.text("s0,0").paint();
             due.is("no order of the longer one", x.point(0, 1, 0), 9);
         });
+        h.test("Does the orders of the text", "whatever kind of order stood at the place of each in a text that was", due -> {
+            Calls x = new Calls();
+            due.is("steps", x.text("s1,1;s1,1;s1,1").paint(), 3);
+            due.is("boxes", x.text("b5,6,1,1=9;b7,7,1,2=3;b0,0,2,1=1").paint(), 3);
+            due.is("the first box", x.point(0, 5, 6), 9);
+            due.is("the second box", x.point(0, 7, 8), 3);
+            due.is("the third box", x.point(0, 1, 0), 1);
+            due.is("steps again", x.text("s1,1;s1,1;s1,1").paint(), 3);
+            due.is("the first box is moved", x.point(0, 8, 9), 9);
+            due.is("all that is drawn", x.difference(0, 1, -1), 9 + 3 + 3 + 1 + 1);
+        });
     }
 
     private static void oneAct(Heading h) {

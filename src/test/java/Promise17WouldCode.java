@@ -49,6 +49,19 @@ final class Promise17WouldCode {
             due.is("the kind", x.wouldCode(4, 0, 0), 1);
             due.is("the next one is keyed", x.send(false), 594);
         });
+        h.test(TELLS, "by the screen of the sender, not by that of the receiver", due -> {
+            Calls x = new Calls();
+            x.fill(0, 0, 4, 4, 5);
+            x.send(true);
+            int[] wants = {0, 0, 1, 0};
+            for (int what = 0; what < 4; what++) {
+                due.is("of what only the sender has, what " + what, x.wouldCode(0, 0, what), wants[what]);
+            }
+            x.set(0, 0, 6);
+            due.is("what is left of it", x.wouldCode(0, 1, 3), 1);
+            x.fill(0, 0, 4, 4, 0);
+            due.is("of what only the receiver has", x.wouldCode(0, 0, 0), 2);
+        });
         h.test(TELLS, "nothing is changed by it, and the settings do not matter", due -> {
             Run run = x -> Runs.rich(x);
             due.are("the state", Told.state(run.then(x -> x.wouldCode(0, 0, 0))), Told.state(run));

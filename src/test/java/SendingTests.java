@@ -224,7 +224,10 @@ final class SendingTests {
             x.send(true);
             due.is("the sender has it, though the receiver does not", x.send(false), 9);
             due.is("wouldSpend", x.wouldSpend(0), 9);
+            due.is("wouldCode", x.wouldCode(0, 0, 0), 0);
+            due.is("best", x.best(0, 1), 0);
             x.fill(0, 0, 4, 4, 0);
+            due.is("wouldCode", x.wouldCode(0, 0, 0), 2);
             due.is("the receiver has it, though the sender does not", x.send(false), 74);
         });
         h.test(BEFORE, "not with the drawing as it was", due -> {
@@ -233,6 +236,32 @@ final class SendingTests {
             x.fill(0, 0, 4, 4, 0);
             due.is("nothing was sent of it", x.send(false), 9);
         });
+    }
+
+    /** The middle tile is sent whole, or is found by the place 2; the others are 16 away, and skipped with 16. */
+    private static Calls skippedAround(boolean isWhole) {
+        Calls x = new Calls();
+        x.setNumber(0, 600);
+        if (!isWhole) {
+            Runs.drawMiddle(x, 0);
+            x.fill(4, 8, 5, 1, 15);
+            x.fill(8, 4, 1, 5, 15);
+            x.send(false);
+            x.shift(-1, -1);
+        }
+        x.fill(0, 0, 12, 4, 1);
+        x.fill(0, 4, 4, 4, 1);
+        x.fill(8, 4, 4, 4, 1);
+        x.fill(0, 8, 12, 4, 1);
+        if (isWhole) {
+            x.fill(4, 4, 4, 4, 15);
+        } else {
+            x.fill(4, 8, 5, 1, 14);
+            x.fill(8, 4, 1, 5, 14);
+        }
+        x.setNumber(1, 16);
+        x.send(false);
+        return x;
     }
 
     private static void behind(Heading h) {
@@ -259,6 +288,21 @@ final class SendingTests {
             due.is("what is left of the first tile", x.difference(0, 1, 0), 3);
             due.is("what is left of the middle tile", x.difference(0, 1, 4), 3);
             due.is("what is left of all", x.frame(0, 7), x.difference(0, 1, -1));
+        });
+        h.test(BEHIND, "no point of a skipped tile changes, whatever the tiles around it get", due -> {
+            for (int picture = 1; picture <= 2; picture++) {
+                int[] points = Told.points(skippedAround(true), picture);
+                for (int i = 0; i < 144; i++) {
+                    due.is("a whole tile, picture " + picture + ", point " + i, points[i], Runs.tileOf(i % 12, i / 12) == 4 ? 15 : 0);
+                }
+                points = Told.points(skippedAround(false), picture);
+                for (int i = 0; i < 144; i++) {
+                    boolean isInside = Runs.tileOf(i % 12, i / 12) == 4;
+                    int around = i / 12 == 8 && i % 12 >= 4 && i % 12 <= 8 || i % 12 == 8 && i / 12 >= 4 && i / 12 <= 8 ? 15 : 0;
+                    due.is("a moved tile, picture " + picture + ", point " + i, points[i],
+                        !isInside ? around : i % 12 == 7 || i / 12 == 7 ? 15 : Runs.level(0, i % 12 - 3, i / 12 - 3));
+                }
+            }
         });
         h.test(BEHIND, "of a lost frame too", due -> {
             Calls x = new Calls();

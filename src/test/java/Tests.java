@@ -4,7 +4,7 @@ import java.util.List;
 /** Runs tests one by one and prints a line for each, which .ci/run counts. */
 final class Tests {
     /** Far more than any test needs: a call that fails to end is a fault as well. */
-    private static final long MOST_MILLIS = 120_000;
+    private static final long MOST_MILLIS = 60_000;
 
     private static final List<String> NAMES = new ArrayList<>();
     private static boolean isAsDue = true;
@@ -21,8 +21,9 @@ final class Tests {
         Thread asking = new Thread(() -> ask(name, body, due));
         asking.setDaemon(true);
         asking.start();
-        List<String> faults = ended(asking) ? due.faults() : List.of("it did not end");
-        boolean isPassed = ended(asking) && due.isAsDue();
+        boolean isEnded = ended(asking);
+        List<String> faults = isEnded ? due.faults() : List.of("it did not end");
+        boolean isPassed = isEnded && due.isAsDue();
         if (NAMES.contains(name)) {
             isPassed = false;
             faults = List.of("two tests have this name");
@@ -32,6 +33,10 @@ final class Tests {
         System.out.println((isPassed ? "ok      " : "FAILED  ") + name);
         if (!isPassed) {
             faults.forEach(fault -> System.out.println("          " + fault));
+        }
+        if (asking.isAlive()) {
+            // It would go on beside all tests that follow, and most of these would not end either.
+            System.exit(1);
         }
     }
 
