@@ -132,10 +132,11 @@ public final class SpiralFrames {
             return error;
         }
         record();
-        for (int order = 0; order < orders.total; order++) {
+        int total = orders.total;
+        for (int order = 0; order < total; order++) {
             doOrder(order);
         }
-        return orders.total;
+        return total;
     }
 
     // ---- settings
@@ -420,7 +421,8 @@ public final class SpiralFrames {
     // ---- orders
 
     private int firstOrderError() {
-        for (int order = 0; order < orders.total; order++) {
+        int total = orders.total;
+        for (int order = 0; order < total; order++) {
             int error = orderError(order);
             if (error != NO_ERROR) {
                 return error;
